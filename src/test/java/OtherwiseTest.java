@@ -44,10 +44,11 @@ public final class OtherwiseTest {
                 + "bill of 0 sum 3000 off 0 by 0 due 0 late 0;bill of 0 sum 1900 off 0 by 0 due 0 late 0;";
         Check.same("need(), the most", Check.desk(great.replace("FEE", "99")).need(), 9999);
         Check.same("need() beyond the most", Check.desk(great.replace("FEE", "100")).need(), -1);
-        // With 50 to 84 bill 0 goes on day 0 alone, and bill 1 finds no day: more cash, fewer bills paid.
-        PaymentRuns gap = Check.desk("desk days 2 law 0 odds 0 cash 60 floor 0 fee 20;supplier rank 5;supplier rank 1;"
-                + "bill of 0 sum 50 off 10 by 0 due 1 late 0;bill of 1 sum 40 off 0 by 0 due 1 late 0;cash 60 on 1;");
-        Check.same("need(), the least", gap.need(), 50);
+        // With 60 to 64 both go on day 1. With 65 bill 0 goes on day 0, and bill 1 has no cash for a fee of its own.
+        String gap = "desk days 2 law 0 odds 0 cash 65 floor 0 fee 20;supplier rank 5;supplier rank 1;"
+                + "bill of 0 sum 50 off 10 by 0 due 1 late 0;bill of 1 sum 40 off 0 by 0 due 1 late 0;cash 50 on 1;";
+        Check.same("open(), more cash", Check.desk(gap).open(), 2);
+        Check.same("need(), the least", Check.desk(gap).need(), 60);
     }
 
     private static void floor() {
