@@ -24,6 +24,7 @@ public final class PaymentRuns {
     private static final int SLOTS = 4;
     private static final int ROW_NUMBERS = 60;
     private static final int LAWS = 4;
+    private static final int LAW_OF_RATE = 1;
     private static final int OFFS = 21;
     private static final int MOST_RANK = 9;
     private static final int MOST_CASH = 9999;
@@ -153,14 +154,8 @@ public final class PaymentRuns {
         if (!isThere()) {
             return NO_SUCH;
         }
-        week.asTold();
-        int first = desk.bills > 0 ? 0 : NONE;
-        for (int b = 1; b < desk.bills; b++) {
-            if (week.hasGreaterRate(b, first)) {
-                first = b;
-            }
-        }
-        return first;
+        planByOtherLaw(LAW_OF_RATE);
+        return week.ordered > 0 ? week.order[0] : NONE;
     }
 
     // Promises 14 to 31: the week by law.
@@ -1088,25 +1083,21 @@ public final class PaymentRuns {
             at = 0;
             nextToken();
             for (int i = 0; i < TAPE_BYTES && fault == 0 && kind != END; i++) {
-                readLine();
+                if (draft.lines == 0) {
+                    readDesk();
+                } else if (isWord("supplier")) {
+                    readSupplier();
+                } else if (isWord("bill")) {
+                    readBill();
+                } else if (isWord("cash")) {
+                    readIncome();
+                } else {
+                    refuse(MISPLACED);
+                }
+                takeSign();
+                draft.lines++;
             }
             length = 0;
-        }
-
-        private void readLine() {
-            if (draft.lines == 0) {
-                readDesk();
-            } else if (isWord("supplier")) {
-                readSupplier();
-            } else if (isWord("bill")) {
-                readBill();
-            } else if (isWord("cash")) {
-                readIncome();
-            } else {
-                refuse(MISPLACED);
-            }
-            takeSign();
-            draft.lines++;
         }
 
         private void readDesk() {
@@ -1166,7 +1157,7 @@ public final class PaymentRuns {
             if (!isWord(word)) {
                 refuse(MISPLACED);
             }
-            goOn();
+            nextToken();
         }
 
         private int takeNumber(int least, int most) {
@@ -1176,7 +1167,7 @@ public final class PaymentRuns {
             } else if (number < least || number > most) {
                 refuse(OUT_OF_BOUNDS);
             }
-            goOn();
+            nextToken();
             return fault == 0 ? number : 0;
         }
 
@@ -1184,13 +1175,7 @@ public final class PaymentRuns {
             if (kind != SIGN) {
                 refuse(MISPLACED);
             }
-            goOn();
-        }
-
-        private void goOn() {
-            if (fault == 0) {
-                nextToken();
-            }
+            nextToken();
         }
 
         /** Only the first fault counts: tokens are taken by their places. */
@@ -1213,8 +1198,14 @@ public final class PaymentRuns {
             return true;
         }
 
+        /** Stays at the token of a fault, so that all behind it is refused, too. */
         private void nextToken() {
-            skipBlanks();
+            if (fault != 0) {
+                return;
+            }
+            while (at < length && kindOf(text[at]) == BLANK) {
+                at++;
+            }
             start = at;
             value = 0;
             kind = at < length ? kindOf(text[at]) : END;
@@ -1222,12 +1213,6 @@ public final class PaymentRuns {
             int stop = grows ? length : Math.min(length, start + 1);
             for (; at < stop && kindOf(text[at]) == kind; at++) {
                 value = Math.min(GREAT, value * 10 + digitOf(text[at]));
-            }
-        }
-
-        private void skipBlanks() {
-            while (at < length && kindOf(text[at]) == BLANK) {
-                at++;
             }
         }
 
@@ -1337,7 +1322,7 @@ public final class PaymentRuns {
         private boolean isAhead(int b, int other) {
             switch (law) {
                 case 0: return rankOf(b) > rankOf(other);
-                case 1: return hasGreaterRate(b, other);
+                case LAW_OF_RATE: return gain(b) * span(other) > gain(other) * span(b);
                 case 2: return desk.told[b][DUE] < desk.told[other][DUE];
                 default: return net[b] < net[other];
             }
@@ -1347,10 +1332,6 @@ public final class PaymentRuns {
             return desk.rank[desk.told[b][OF]];
         }
 
-        boolean hasGreaterRate(int b, int other) {
-            return gain(b) * span(other) > gain(other) * span(b);
-        }
-
         /** What off takes from the net. */
         int gain(int b) {
             return net[b] * off[b] / 100;
@@ -1358,7 +1339,8 @@ public final class PaymentRuns {
 
         /** Days from by to due, at least 1. */
         int span(int b) {
-            return Math.max(1, desk.told[b][DUE] - desk.told[b][BY]);
+            int days = desk.told[b][DUE] - desk.told[b][BY];
+            return days > 0 ? days : 1;
         }
 
         private int dayByLaw(int b) {
@@ -1369,7 +1351,7 @@ public final class PaymentRuns {
             for (int d = desk.days - 1; d >= 0; d--) {
                 lowest = Math.min(lowest, behind[d]);
                 if (!isClosed(d)) {
-                    int goes = outflow(b, d);
+                    int goes = price(b, d) + feeFor(d);
                     int lacks = floor + goes - lowest;
                     if (lacks > 0) {
                         missing = missing == 0 ? lacks : Math.min(missing, lacks);
@@ -1409,16 +1391,17 @@ public final class PaymentRuns {
         }
 
         int penalty(int b, int d) {
-            return desk.told[b][LATE] * Math.max(0, d - desk.told[b][DUE]);
+            int days = d - desk.told[b][DUE];
+            return days > 0 ? days * desk.told[b][LATE] : 0;
         }
 
-        /** What goes out more, if a bill is paid on a day besides those that are. */
-        int outflow(int b, int d) {
-            return price(b, d) + (files[d] == 0 ? desk.fee : 0);
+        /** The fee for a bill that comes to those that are paid on a day. */
+        int feeFor(int d) {
+            return files[d] == 0 ? desk.fee : 0;
         }
 
         void pay(int b, int d) {
-            int goes = outflow(b, d);
+            int goes = price(b, d) + feeFor(d);
             day[b] = d;
             files[d] |= 1 << b;
             spend(d, goes);
@@ -1429,7 +1412,7 @@ public final class PaymentRuns {
             if (d != NONE) {
                 day[b] = NONE;
                 files[d] &= ~(1 << b);
-                spend(d, -outflow(b, d));
+                spend(d, -price(b, d) - feeFor(d));
             }
         }
 
@@ -1564,7 +1547,7 @@ public final class PaymentRuns {
                 choose(week, b + 1, sum + week.price(b, d));
                 return;
             }
-            int more = week.outflow(b, d);
+            int more = week.price(b, d) + week.feeFor(d);
             week.pay(b, d);
             // Bills that are paid besides never make an unlawful plan lawful.
             if (week.isLawful()) {

@@ -157,6 +157,8 @@ public final class ChanceTest {
             paid += total < 5 ? 1 : 0;
             Check.same("luck(1000, " + (seed + 1) + ", 0)", runs.luck(1000, seed + 1, 0), paid);
         }
+        Check.same("drawn(0, 0)", runs.drawn(0, 0), linesDrawn(0, 5, 5));
+        Check.isTrue("luck from seed 0", runs.luck(0, 20, 0) >= 0);
         Check.same("drawn(2000000000, 0)", runs.drawn(2000000000, 0), linesDrawn(2000000000, 5, 5));
         Check.isTrue("luck from the greatest seed", runs.luck(2000000000, 20, 0) >= 0);
         for (int none : new int[] {-1, 2000000001, MIN, MAX}) {

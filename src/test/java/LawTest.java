@@ -79,6 +79,14 @@ public final class LawTest {
             Check.same("order(maximum)", runs.order(Integer.MAX_VALUE), -1);
             Check.same("order(-1)", runs.order(-1), -2);
         }
+        String alike = "bill of 0 sum 10 off 5 by 0 due 1 late 1;";
+        for (int law = 0; law < 4; law++) {
+            PaymentRuns same = Check.desk("desk days 2 law " + law + " odds 0 cash 99 floor 0 fee 0;supplier rank 4;"
+                    + alike.repeat(3));
+            for (int i = 0; i < 3; i++) {
+                Check.same("order(" + i + ") of bills alike by law " + law, same.order(i), i);
+            }
+        }
         PaymentRuns runs = Check.desk(Desks.ORDERS);
         runs.ranks(0, 9);
         Check.same("order(0), the least number of one rank", runs.order(0), 0);

@@ -44,6 +44,8 @@ public final class OtherwiseTest {
                 + "bill of 0 sum 3000 off 0 by 0 due 0 late 0;bill of 0 sum 1900 off 0 by 0 due 0 late 0;";
         Check.same("need(), the most", Check.desk(great.replace("FEE", "99")).need(), 9999);
         Check.same("need() beyond the most", Check.desk(great.replace("FEE", "100")).need(), -1);
+        Check.same("need(), one", Check.desk("desk days 1 law 0 odds 0 cash 0 floor 0 fee 0;supplier rank 0;"
+                + "bill of 0 sum 1 off 0 by 0 due 0 late 0;").need(), 1);
         // With 60 to 64 both go on day 1. With 65 bill 0 goes on day 0, and bill 1 has no cash for a fee of its own.
         String gap = "desk days 2 law 0 odds 0 cash 65 floor 0 fee 20;supplier rank 5;supplier rank 1;"
                 + "bill of 0 sum 50 off 10 by 0 due 1 late 0;bill of 1 sum 40 off 0 by 0 due 1 late 0;cash 50 on 1;";
@@ -59,6 +61,9 @@ public final class OtherwiseTest {
         PaymentRuns rich = Check.desk("desk days 1 law 0 odds 0 cash 5009 floor 0 fee 0;supplier rank 0;"
                 + "bill of 0 sum 9 off 0 by 0 due 0 late 1;");
         Check.same("floor(), the most", rich.floor(), 5000);
+        PaymentRuns next = Check.desk("desk days 1 law 0 odds 0 cash 5008 floor 0 fee 0;supplier rank 0;"
+                + "bill of 0 sum 9 off 0 by 0 due 0 late 1;");
+        Check.same("floor(), the next below the most", next.floor(), 4999);
         PaymentRuns less = Check.desk("desk days 1 law 0 odds 0 cash 5008 floor 5000 fee 0;supplier rank 0;"
                 + "bill of 0 sum 9 off 0 by 0 due 0 late 1;");
         Check.same("floor(), it isn't paid now", less.floor(), 5000);

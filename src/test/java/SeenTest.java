@@ -39,6 +39,11 @@ public final class SeenTest {
         runs.fails(0);
         seen(runs, 0, -1, -1, 0, 0);
         seen(runs, 21, 0, 20, 0, 1);
+        // An off of 1 or more lets bill 0 go at once.
+        PaymentRuns nought = Check.desk("desk days 2 law 0 odds 0 cash 99 floor 0 fee 0;supplier rank 5;"
+                + "bill of 0 sum 100 off 15 by 0 due 1 late 0;cash 500 on 1;");
+        seen(nought, 1, 0, 0, 0, 1);
+        seen(nought, 20, 1, 20, 0, 0);
     }
 
     private static void questions() {

@@ -84,6 +84,11 @@ public final class TapeTest {
         read("\n desk\ndays5law 2odds 1\n\ncash 9 floor4fee 3 ; \n", 1, 0, -1);
         read("desk days 0005 law 00 odds 010 cash 00009999 floor 5000 fee 200;", 1, 0, -1);
         read("deskdays 5", -4, 1, 0);
+        read("deskz", -4, 1, 0);
+        read("desk`", -4, 1, 4);
+        read("desk{", -4, 1, 4);
+        read("desk days 5/", -4, 1, 11);
+        read("desk days 5:", -4, 1, 11);
         read("desk days 5 law 2 Odds 1", -4, 1, 18);
         read("desk days 5 la\tw 2", -4, 1, 12);
         read("desk days 5 law\t2", -4, 1, 15);
