@@ -19,8 +19,16 @@ public final class SeenTest {
         String told = java.util.Arrays.toString(row);
         Check.row(runs, 2, row);
         Check.same("fits of " + told, runs.fits(2, 0), fits);
+        askOther(runs);
         Check.same("low of " + told, runs.low(2, 0), low);
+        askOther(runs);
         Check.same("high of " + told, runs.high(2, 0), high);
+    }
+
+    /** What another row fits must not be taken for what this one does. */
+    private static void askOther(PaymentRuns runs) {
+        Check.row(runs, 3, 0, -1, 0, 0);
+        runs.fits(3, 0);
     }
 
     private static void fits() {
