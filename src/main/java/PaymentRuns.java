@@ -31,6 +31,7 @@ public final class PaymentRuns {
     private static final int MOST_FLOOR = 5000;
     private static final int MOST_SEED = 2000000000;
     private static final int MOST_WEEKS = 20;
+    private static final int GREATEST = 2147483647;
 
     // What is told of a bill, numbered as promise 7 numbers it.
     private static final int OF = 0;
@@ -390,8 +391,8 @@ public final class PaymentRuns {
             return NO_SUCH;
         }
         week.asTold();
-        int least = search.least(week, bill, day, Integer.MAX_VALUE);
-        return least < Integer.MAX_VALUE ? least : NONE;
+        int least = search.least(week, bill, day, GREATEST);
+        return least < GREATEST ? least : NONE;
     }
 
     public int may(int bill) {
@@ -416,7 +417,7 @@ public final class PaymentRuns {
             return NO_SUCH;
         }
         int first = NONE;
-        int least = Integer.MAX_VALUE;
+        int least = GREATEST;
         for (int b = 0; b < desk.bills; b++) {
             int rest = byLaw().whole() - week.price(b, week.dayOrLast(b));
             int without = totalOfSet(week.allBills() & ~(1 << b));
@@ -569,7 +570,7 @@ public final class PaymentRuns {
             return NO_SUCH;
         }
         int first = 0;
-        int least = Integer.MAX_VALUE;
+        int least = GREATEST;
         for (int law = 0; law < LAWS; law++) {
             planByOtherLaw(law);
             int total = week.whole();
@@ -852,7 +853,7 @@ public final class PaymentRuns {
 
     private int leastOfAll() {
         week.asTold();
-        return search.least(week, NONE, NONE, Integer.MAX_VALUE);
+        return search.least(week, NONE, NONE, GREATEST);
     }
 
     private int refusedPlan(int slot) {
@@ -889,7 +890,7 @@ public final class PaymentRuns {
 
     /** The least TOTAL of lawful plans that pay some bills, on one day alone. */
     private int leastOnDay(int day) {
-        int least = Integer.MAX_VALUE;
+        int least = GREATEST;
         week.asTold();
         for (int bits = 1; bits <= week.allBills(); bits++) {
             week.clearPlan();
@@ -1345,8 +1346,8 @@ public final class PaymentRuns {
 
         private int dayByLaw(int b) {
             int best = NONE;
-            int least = Integer.MAX_VALUE;
-            int lowest = Integer.MAX_VALUE;
+            int least = GREATEST;
+            int lowest = GREATEST;
             // From the last day on back, as what is lowest behind a day counts the days behind it, too.
             for (int d = desk.days - 1; d >= 0; d--) {
                 lowest = Math.min(lowest, behind[d]);
@@ -1517,7 +1518,7 @@ public final class PaymentRuns {
         private void reckonRest(Week week) {
             rest[week.desk.bills] = 0;
             for (int b = week.desk.bills - 1; b >= 0; b--) {
-                int lowest = Integer.MAX_VALUE;
+                int lowest = GREATEST;
                 for (int d = 0; d <= week.desk.days; d++) {
                     lowest = Math.min(lowest, week.price(b, d));
                 }
